@@ -51,8 +51,8 @@ public final class OrderAssembler {
     // An item is a part's number, or this plus a product's number.
     private static final int PRODUCT_ITEM = 100;
 
-    private final InputText input = new InputText();
-    private final Parser parser = new Parser(input);
+    private final Parser parser = new Parser();
+    private final InputText input = parser.tokens.text;
     private final History history = new History();
     private final Allocation allocation = new Allocation();
     private final FormattedText formatted = new FormattedText();
@@ -1404,12 +1404,8 @@ public final class OrderAssembler {
 
         int kind;
         int start;
+        final InputText text = new InputText();
         private int end;
-        private final InputText text;
-
-        Tokens(InputText text) {
-            this.text = text;
-        }
 
         void restart() {
             end = 0;
@@ -1493,14 +1489,10 @@ public final class OrderAssembler {
     private static final class Parser {
         int failOffset = NONE;
         int failKind;
-        private final Tokens tokens;
+        final Tokens tokens = new Tokens();
         // Drafts of its own, so that a wrong text leaves everything else as it is.
         private Catalog catalog = new Catalog();
         private Ledger ledger = new Ledger();
-
-        Parser(InputText text) {
-            tokens = new Tokens(text);
-        }
 
         void begin() {
             catalog.clear();
