@@ -14,14 +14,19 @@ public final class RoomTest {
             Check.enter(x, Check.FURNITURE);
             use(x);
         }
-        long before = THREADS.getCurrentThreadAllocatedBytes();
-        OrderAssembler x = new OrderAssembler();
-        long made = THREADS.getCurrentThreadAllocatedBytes() - before;
+        long made = Long.MAX_VALUE;
+        long used = Long.MAX_VALUE;
+        // The least of several, for the machine may make something of its own in between.
+        for (int time = 0; time < 5; time++) {
+            long before = THREADS.getCurrentThreadAllocatedBytes();
+            OrderAssembler x = new OrderAssembler();
+            made = Math.min(made, THREADS.getCurrentThreadAllocatedBytes() - before);
+            Check.enter(x, Check.FURNITURE);
+            before = THREADS.getCurrentThreadAllocatedBytes();
+            use(x);
+            used = Math.min(used, THREADS.getCurrentThreadAllocatedBytes() - before);
+        }
         Check.due("an object takes " + made + " bytes, at most " + MOST_BYTES, made <= MOST_BYTES ? 1 : 0, 1);
-        Check.enter(x, Check.FURNITURE);
-        before = THREADS.getCurrentThreadAllocatedBytes();
-        use(x);
-        long used = THREADS.getCurrentThreadAllocatedBytes() - before;
         Check.due("bytes that the calls make", used, 0);
         System.out.println("an object takes " + made + " bytes, its calls " + used);
         Check.end();
