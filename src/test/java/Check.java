@@ -14,8 +14,12 @@ final class Check {
     static final int TABLE = 1;
     static final int STOOL = 2;
 
+    /** Numbers that are out of every range. */
+    static final int[] FAR_OUT = {Integer.MIN_VALUE, -1000, 1000000, Integer.MAX_VALUE};
+
     private static int checks = 0;
     private static int wrong = 0;
+    private static String sentence = "";
 
     private Check() { }
 
@@ -23,20 +27,43 @@ final class Check {
         long answer();
     }
 
+    /** The sentence of the document that the next checks are about; it is told with each wrong answer. */
+    static void says(String words) {
+        sentence = words;
+    }
+
+    private static void tell(String what, Object got, Object want) {
+        wrong++;
+        System.out.println(what + " answered " + got + ", due is " + want);
+        if (!sentence.isEmpty()) {
+            System.out.println("    the document says: " + sentence);
+        }
+    }
+
     static void due(String what, long got, long want) {
         checks++;
         if (got != want) {
-            wrong++;
-            System.out.println(what + " answered " + got + ", due is " + want);
+            tell(what, got, want);
         }
     }
 
     static void due(String what, String got, String want) {
         checks++;
         if (!got.equals(want)) {
-            wrong++;
-            System.out.println(what + " answered \"" + got + "\", due is \"" + want + "\"");
+            tell(what, '"' + got + '"', '"' + want + '"');
         }
+    }
+
+    static void none(String what, long got) {
+        due(what, got, OrderAssembler.NONE);
+    }
+
+    static void yes(String what, boolean got) {
+        due(what, got ? 1 : 0, 1);
+    }
+
+    static void no(String what, boolean got) {
+        due(what, got ? 1 : 0, 0);
     }
 
     static void outside(String what, Call call) {
@@ -60,9 +87,15 @@ final class Check {
             got = exception.getClass();
         }
         if (got != kind) {
-            wrong++;
-            System.out.println(what + " answered " + got + ", due is " + kind);
+            tell(what, got, kind);
         }
+    }
+
+    /** A call that must throw this and leave everything as it is. */
+    static void refused(OrderAssembler x, String what, Class<?> kind, Call call) {
+        String before = everything(x);
+        thrown(what, call, kind);
+        due("everything after the refused " + what, everything(x), before);
     }
 
     static void end() {
@@ -99,6 +132,42 @@ final class Check {
             text.append((char) x.formattedByte(k));
         }
         return text.toString();
+    }
+
+    /** The length of the input buffer: the greatest one to which it can be shortened. */
+    static int bufferLength(OrderAssembler x) {
+        for (int length = 900; length > 0; length--) {
+            if (x.truncate(length)) {
+                return length;
+            }
+        }
+        return 0;
+    }
+
+    /** The state, and what undoing leaves alone: the bills, the trials, the error, the texts. */
+    static String everything(OrderAssembler x) {
+        StringBuilder told = new StringBuilder(all(x));
+        told.append('#').append(bufferLength(x)).append(',').append(x.errorOffset()).append(',')
+            .append(x.errorKind()).append(',').append(formatted(x));
+        for (int product = 0; product < x.count(1); product++) {
+            told.append("|q").append(x.lineCount(product)).append(',').append(x.bottleneck(product));
+            for (int line = 0; line < 6; line++) {
+                told.append(',').append(x.lineItem(product, line)).append(',').append(x.lineQuantity(product, line));
+            }
+            for (int part = 0; part < x.count(0); part++) {
+                told.append(',').append(x.need(product, part));
+            }
+        }
+        for (int order = 0; order < x.count(2); order++) {
+            told.append("|o").append(x.promiseOf(order)).append(',').append(x.delayingPart(order)).append(',')
+                .append(x.wouldGet(order)).append(',').append(x.rungOf(order)).append(',')
+                .append(x.missingPieces(order));
+        }
+        for (int rung = 0; rung < x.count(3); rung++) {
+            told.append("|r").append(x.rungUnits(rung));
+        }
+        return told.append('|').append(x.scarcestPart()).append(',').append(x.lateOrders()).append(',')
+            .append(x.coveredOrders()).append(',').append(x.promiseOfAll()).toString();
     }
 
     /** All that can be asked of the state, in one text, for telling whether anything changed. */

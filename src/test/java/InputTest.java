@@ -1,7 +1,5 @@
 /** Promises 1 to 6: a new object, the buffer, loading, and the errors in a text. */
 public final class InputTest {
-    private static final String PARTS_AND_PRODUCT = "part a 1 1;part b 2 2;product p 1 a;";
-
     private InputTest() { }
 
     public static void main(String[] args) {
@@ -150,131 +148,104 @@ public final class InputTest {
         Check.due("undo after a wrong text", x.undo(), 2);
     }
 
-    private static void right(String text, int products) {
-        OrderAssembler x = new OrderAssembler();
-        Check.enter(x, text);
-        int answer;
-        try {
-            answer = x.load();
-        } catch (IllegalArgumentException wrong) {
-            answer = OrderAssembler.NONE;
-        }
-        Check.due("load of \"" + text + "\"", answer, products);
-        Check.due("errorOffset after \"" + text + "\"", x.errorOffset(), OrderAssembler.NONE);
-        Check.due("errorKind after \"" + text + "\"", x.errorKind(), 0);
-    }
-
-    private static void error(String text, int offset, int kind) {
-        OrderAssembler x = new OrderAssembler();
-        Check.enter(x, text);
-        Check.badArgument("load of \"" + text + "\"", x::load);
-        Check.due("errorOffset after \"" + text + "\"", x.errorOffset(), offset);
-        Check.due("errorKind after \"" + text + "\"", x.errorKind(), kind);
-    }
-
-    /** The error stands where the mark ^ stands in the text. */
-    private static void errorAt(String marked, int kind) {
-        error(marked.replace("^", ""), marked.indexOf('^'), kind);
-    }
-
     private static void grammar() {
-        right("", 0);
-        right("\n\t part\ta\n1 1 ; part b 1 1;\n", 0);
-        right("part a1 1;product p1a;order p1 1 1whole;", 1);
-        right("part a 0000 0001;part b 9999 60;product p 20 a 0001 b;", 1);
-        right("part part 1 1;product product 1 part;product rung 1 product;order rung 1 1 1;"
+        Texts.right("", 0);
+        Texts.right("\n\t part\ta\n1 1 ; part b 1 1;\n", 0);
+        Texts.right("part a1 1;product p1a;order p1 1 1whole;", 1);
+        Texts.right("part a 0000 0001;part b 9999 60;product p 20 a 0001 b;", 1);
+        Texts.right("part part 1 1;product product 1 part;product rung 1 product;order rung 1 1 1;"
             + "product order 1 rung;order order 1 1 1 whole;product whole 1 part;order whole 1 1 1 whole;", 4);
-        right("part azaz 1 1;product zz 1 azaz;product az 1 zz;", 2);
-        right("part abcdefgh 1 1;product abcdefgi 1 abcdefgh;", 1);
-        right("rung 0 0 1;rung 9 9 100;rung 0 9 50;rung 5 5 5;rung 0 9 1;rung 3 4 99;", 0);
-        right(PARTS_AND_PRODUCT + "order p 1 0 0;order p 99 9 999 whole;", 1);
-        right("order p 1 0 0;".repeat(20).replaceFirst("", PARTS_AND_PRODUCT), 1);
-        right("part a 1 1;part b 1 1;part c 1 1;part d 1 1;part e 1 1;part f 1 1;product p 1 a 2 b 3 c 4 d 5 e 6 f;", 1);
+        Texts.right("part azaz 1 1;product zz 1 azaz;product az 1 zz;", 2);
+        Texts.right("part abcdefgh 1 1;product abcdefgi 1 abcdefgh;", 1);
+        Texts.right("rung 0 0 1;rung 9 9 100;rung 0 9 50;rung 5 5 5;rung 0 9 1;rung 3 4 99;", 0);
+        Texts.right(Texts.SMALL + "order p 1 0 0;order p 99 9 999 whole;", 1);
+        Texts.right("order p 1 0 0;".repeat(20).replaceFirst("", Texts.SMALL), 1);
+        Texts.right("part a 1 1;part b 1 1;part c 1 1;part d 1 1;part e 1 1;part f 1 1;product p 1 a 2 b 3 c 4 d 5 e 6 f;", 1);
     }
 
     private static void syntaxErrors() {
-        errorAt("^;", OrderAssembler.SYNTAX);
-        errorAt("^parts a 1 1;", OrderAssembler.SYNTAX);
-        errorAt("^par", OrderAssembler.SYNTAX);
-        errorAt("^xart a 1 1;", OrderAssembler.SYNTAX);
-        errorAt("part a 1 1^,", OrderAssembler.SYNTAX);
-        errorAt("part a 1 1;^{", OrderAssembler.SYNTAX);
-        errorAt("part a^` 1 1;", OrderAssembler.SYNTAX);
-        errorAt("part a ^/ 1;", OrderAssembler.SYNTAX);
-        errorAt("part a 1^: 1;", OrderAssembler.SYNTAX);
-        errorAt("^whole;", OrderAssembler.SYNTAX);
-        errorAt(" ^1", OrderAssembler.SYNTAX);
-        errorAt("^Part a 1 1;", OrderAssembler.SYNTAX);
-        errorAt("part^", OrderAssembler.SYNTAX);
-        errorAt("part ^", OrderAssembler.SYNTAX);
-        errorAt("part ^1 1 1;", OrderAssembler.SYNTAX);
-        errorAt("part ^abcdefghi 1 1;", OrderAssembler.SYNTAX);
-        errorAt("part a^B 1 1;", OrderAssembler.SYNTAX);
-        errorAt("part a ^b 1;", OrderAssembler.SYNTAX);
-        errorAt("part a 1 ^;", OrderAssembler.SYNTAX);
-        errorAt("part a 1 1^", OrderAssembler.SYNTAX);
-        errorAt("part a 1 1 \n^", OrderAssembler.SYNTAX);
-        errorAt("part a 1 1 ^1;", OrderAssembler.SYNTAX);
-        errorAt("part a 1^-1 1;", OrderAssembler.SYNTAX);
-        errorAt("part a 1 1;^;", OrderAssembler.SYNTAX);
-        errorAt("part a 1 1;^\r", OrderAssembler.SYNTAX);
-        errorAt("part a 1 1;product p^;", OrderAssembler.SYNTAX);
-        errorAt("part a 1 1;product p ^a;", OrderAssembler.SYNTAX);
-        errorAt("part a 1 1;product p 1 ^;", OrderAssembler.SYNTAX);
-        errorAt("part a 1 1;product p 1 ^1;", OrderAssembler.SYNTAX);
-        errorAt("part a 1 1;product p 1 ^abcdefghi;", OrderAssembler.SYNTAX);
-        errorAt("part a 1 1;product p 1 a ^a;", OrderAssembler.SYNTAX);
-        errorAt("part a 1 1;product p 1 a 1^", OrderAssembler.SYNTAX);
-        errorAt("rung ^a 1 1;", OrderAssembler.SYNTAX);
-        errorAt("rung 1 1 1 ^1;", OrderAssembler.SYNTAX);
-        errorAt(PARTS_AND_PRODUCT + "order ^1 1 1;", OrderAssembler.SYNTAX);
-        errorAt(PARTS_AND_PRODUCT + "order ^ppppppppp 1 1 1;", OrderAssembler.SYNTAX);
-        errorAt(PARTS_AND_PRODUCT + "order p 1 1 ^whole;", OrderAssembler.SYNTAX);
-        errorAt(PARTS_AND_PRODUCT + "order p 1 1 1 ^who;", OrderAssembler.SYNTAX);
-        errorAt(PARTS_AND_PRODUCT + "order p 1 1 1 ^wholes;", OrderAssembler.SYNTAX);
-        errorAt(PARTS_AND_PRODUCT + "order p 1 1 1 whole ^whole;", OrderAssembler.SYNTAX);
-        errorAt(PARTS_AND_PRODUCT + "order p 1 1 1 ^1;", OrderAssembler.SYNTAX);
-        error("part a 1 1;" + (char) 225, 11, OrderAssembler.SYNTAX);
-        error("part a 1 1;" + (char) 0, 11, OrderAssembler.SYNTAX);
+        Texts.errorAt("^;", OrderAssembler.SYNTAX);
+        Texts.errorAt("^parts a 1 1;", OrderAssembler.SYNTAX);
+        Texts.errorAt("^par", OrderAssembler.SYNTAX);
+        Texts.errorAt("^xart a 1 1;", OrderAssembler.SYNTAX);
+        Texts.errorAt("part a 1 1^,", OrderAssembler.SYNTAX);
+        Texts.errorAt("part a 1 1;^{", OrderAssembler.SYNTAX);
+        Texts.errorAt("part a^` 1 1;", OrderAssembler.SYNTAX);
+        Texts.errorAt("part a ^/ 1;", OrderAssembler.SYNTAX);
+        Texts.errorAt("part a 1^: 1;", OrderAssembler.SYNTAX);
+        Texts.errorAt("^whole;", OrderAssembler.SYNTAX);
+        Texts.errorAt(" ^1", OrderAssembler.SYNTAX);
+        Texts.errorAt("^Part a 1 1;", OrderAssembler.SYNTAX);
+        Texts.errorAt("part^", OrderAssembler.SYNTAX);
+        Texts.errorAt("part ^", OrderAssembler.SYNTAX);
+        Texts.errorAt("part ^1 1 1;", OrderAssembler.SYNTAX);
+        Texts.errorAt("part ^abcdefghi 1 1;", OrderAssembler.SYNTAX);
+        Texts.errorAt("part a^B 1 1;", OrderAssembler.SYNTAX);
+        Texts.errorAt("part a ^b 1;", OrderAssembler.SYNTAX);
+        Texts.errorAt("part a 1 ^;", OrderAssembler.SYNTAX);
+        Texts.errorAt("part a 1 1^", OrderAssembler.SYNTAX);
+        Texts.errorAt("part a 1 1 \n^", OrderAssembler.SYNTAX);
+        Texts.errorAt("part a 1 1 ^1;", OrderAssembler.SYNTAX);
+        Texts.errorAt("part a 1^-1 1;", OrderAssembler.SYNTAX);
+        Texts.errorAt("part a 1 1;^;", OrderAssembler.SYNTAX);
+        Texts.errorAt("part a 1 1;^\r", OrderAssembler.SYNTAX);
+        Texts.errorAt("part a 1 1;product p^;", OrderAssembler.SYNTAX);
+        Texts.errorAt("part a 1 1;product p ^a;", OrderAssembler.SYNTAX);
+        Texts.errorAt("part a 1 1;product p 1 ^;", OrderAssembler.SYNTAX);
+        Texts.errorAt("part a 1 1;product p 1 ^1;", OrderAssembler.SYNTAX);
+        Texts.errorAt("part a 1 1;product p 1 ^abcdefghi;", OrderAssembler.SYNTAX);
+        Texts.errorAt("part a 1 1;product p 1 a ^a;", OrderAssembler.SYNTAX);
+        Texts.errorAt("part a 1 1;product p 1 a 1^", OrderAssembler.SYNTAX);
+        Texts.errorAt("rung ^a 1 1;", OrderAssembler.SYNTAX);
+        Texts.errorAt("rung 1 1 1 ^1;", OrderAssembler.SYNTAX);
+        Texts.errorAt(Texts.SMALL + "order ^1 1 1;", OrderAssembler.SYNTAX);
+        Texts.errorAt(Texts.SMALL + "order ^ppppppppp 1 1 1;", OrderAssembler.SYNTAX);
+        Texts.errorAt(Texts.SMALL + "order p 1 1 ^whole;", OrderAssembler.SYNTAX);
+        Texts.errorAt(Texts.SMALL + "order p 1 1 1 ^who;", OrderAssembler.SYNTAX);
+        Texts.errorAt(Texts.SMALL + "order p 1 1 1 ^wholes;", OrderAssembler.SYNTAX);
+        Texts.errorAt(Texts.SMALL + "order p 1 1 1 whole ^whole;", OrderAssembler.SYNTAX);
+        Texts.errorAt(Texts.SMALL + "order p 1 1 1 ^1;", OrderAssembler.SYNTAX);
+        Texts.error("part a 1 1;" + (char) 225, 11, OrderAssembler.SYNTAX);
+        Texts.error("part a 1 1;" + (char) 0, 11, OrderAssembler.SYNTAX);
     }
 
     private static void numberErrors() {
-        errorAt("part a ^10000 1;", OrderAssembler.BAD_NUMBER);
-        errorAt("part a ^00000 1;", OrderAssembler.BAD_NUMBER);
-        errorAt("part a ^99999999999999999999 1;", OrderAssembler.BAD_NUMBER);
-        errorAt("part a 1 ^0;", OrderAssembler.BAD_NUMBER);
-        errorAt("part a 1 ^61;", OrderAssembler.BAD_NUMBER);
-        errorAt("part a 1 ^00001;", OrderAssembler.BAD_NUMBER);
-        errorAt("part a 1 1;product p ^0 a;", OrderAssembler.BAD_NUMBER);
-        errorAt("part a 1 1;product p ^21 a;", OrderAssembler.BAD_NUMBER);
-        errorAt("part a 1 1;product p 1 a ^21 a;", OrderAssembler.BAD_NUMBER);
-        errorAt("rung ^10 10 1;", OrderAssembler.BAD_NUMBER);
-        errorAt("rung 0 ^10 1;", OrderAssembler.BAD_NUMBER);
-        errorAt("rung 5 ^4 1;", OrderAssembler.BAD_NUMBER);
-        errorAt("rung 0 9 ^0;", OrderAssembler.BAD_NUMBER);
-        errorAt("rung 0 9 ^101;", OrderAssembler.BAD_NUMBER);
-        errorAt(PARTS_AND_PRODUCT + "order p ^0 1 1;", OrderAssembler.BAD_NUMBER);
-        errorAt(PARTS_AND_PRODUCT + "order p ^100 1 1;", OrderAssembler.BAD_NUMBER);
-        errorAt(PARTS_AND_PRODUCT + "order p 1 ^10 1;", OrderAssembler.BAD_NUMBER);
-        errorAt(PARTS_AND_PRODUCT + "order p 1 1 ^1000;", OrderAssembler.BAD_NUMBER);
-        errorAt(PARTS_AND_PRODUCT + "order p 1 1 ^1000whole", OrderAssembler.BAD_NUMBER);
+        Texts.errorAt("part a ^10000 1;", OrderAssembler.BAD_NUMBER);
+        Texts.errorAt("part a ^00000 1;", OrderAssembler.BAD_NUMBER);
+        Texts.errorAt("part a ^99999999999999999999 1;", OrderAssembler.BAD_NUMBER);
+        Texts.errorAt("part a 1 ^0;", OrderAssembler.BAD_NUMBER);
+        Texts.errorAt("part a 1 ^61;", OrderAssembler.BAD_NUMBER);
+        Texts.errorAt("part a 1 ^00001;", OrderAssembler.BAD_NUMBER);
+        Texts.errorAt("part a 1 1;product p ^0 a;", OrderAssembler.BAD_NUMBER);
+        Texts.errorAt("part a 1 1;product p ^21 a;", OrderAssembler.BAD_NUMBER);
+        Texts.errorAt("part a 1 1;product p 1 a ^21 a;", OrderAssembler.BAD_NUMBER);
+        Texts.errorAt("rung ^10 10 1;", OrderAssembler.BAD_NUMBER);
+        Texts.errorAt("rung 0 ^10 1;", OrderAssembler.BAD_NUMBER);
+        Texts.errorAt("rung 5 ^4 1;", OrderAssembler.BAD_NUMBER);
+        Texts.errorAt("rung 0 9 ^0;", OrderAssembler.BAD_NUMBER);
+        Texts.errorAt("rung 0 9 ^101;", OrderAssembler.BAD_NUMBER);
+        Texts.errorAt(Texts.SMALL + "order p ^0 1 1;", OrderAssembler.BAD_NUMBER);
+        Texts.errorAt(Texts.SMALL + "order p ^100 1 1;", OrderAssembler.BAD_NUMBER);
+        Texts.errorAt(Texts.SMALL + "order p 1 ^10 1;", OrderAssembler.BAD_NUMBER);
+        Texts.errorAt(Texts.SMALL + "order p 1 1 ^1000;", OrderAssembler.BAD_NUMBER);
+        Texts.errorAt(Texts.SMALL + "order p 1 1 ^1000whole", OrderAssembler.BAD_NUMBER);
     }
 
     private static void nameErrors() {
-        errorAt("part a 1 1;part ^a 1 1;", OrderAssembler.BAD_NAME);
-        errorAt(PARTS_AND_PRODUCT + "part ^p 1 1;", OrderAssembler.BAD_NAME);
-        errorAt(PARTS_AND_PRODUCT + "product ^a 1 b;", OrderAssembler.BAD_NAME);
-        errorAt(PARTS_AND_PRODUCT + "product ^p 1 b;", OrderAssembler.BAD_NAME);
-        errorAt(PARTS_AND_PRODUCT + "product q 1 ^q;", OrderAssembler.BAD_NAME);
-        errorAt(PARTS_AND_PRODUCT + "product q 1 ^c;", OrderAssembler.BAD_NAME);
-        errorAt(PARTS_AND_PRODUCT + "product q 1 ^aa;", OrderAssembler.BAD_NAME);
-        errorAt("part ab 1 1;product q 1 ^a", OrderAssembler.BAD_NAME);
-        errorAt(PARTS_AND_PRODUCT + "product q 1 a 2 ^a;", OrderAssembler.BAD_NAME);
-        errorAt(PARTS_AND_PRODUCT + "product q 1 p 2 b 1 ^p;", OrderAssembler.BAD_NAME);
-        errorAt("product p 1 ^a;part a 1 1;", OrderAssembler.BAD_NAME);
-        errorAt("order ^p 1 1 1;" + PARTS_AND_PRODUCT, OrderAssembler.BAD_NAME);
-        errorAt(PARTS_AND_PRODUCT + "order ^a 1 1 1;", OrderAssembler.BAD_NAME);
-        errorAt(PARTS_AND_PRODUCT + "order ^whole 1 1 1;", OrderAssembler.BAD_NAME);
+        Texts.errorAt("part a 1 1;part ^a 1 1;", OrderAssembler.BAD_NAME);
+        Texts.errorAt(Texts.SMALL + "part ^p 1 1;", OrderAssembler.BAD_NAME);
+        Texts.errorAt(Texts.SMALL + "product ^a 1 b;", OrderAssembler.BAD_NAME);
+        Texts.errorAt(Texts.SMALL + "product ^p 1 b;", OrderAssembler.BAD_NAME);
+        Texts.errorAt(Texts.SMALL + "product q 1 ^q;", OrderAssembler.BAD_NAME);
+        Texts.errorAt(Texts.SMALL + "product q 1 ^c;", OrderAssembler.BAD_NAME);
+        Texts.errorAt(Texts.SMALL + "product q 1 ^aa;", OrderAssembler.BAD_NAME);
+        Texts.errorAt("part ab 1 1;product q 1 ^a", OrderAssembler.BAD_NAME);
+        Texts.errorAt(Texts.SMALL + "product q 1 a 2 ^a;", OrderAssembler.BAD_NAME);
+        Texts.errorAt(Texts.SMALL + "product q 1 p 2 b 1 ^p;", OrderAssembler.BAD_NAME);
+        Texts.errorAt("product p 1 ^a;part a 1 1;", OrderAssembler.BAD_NAME);
+        Texts.errorAt("order ^p 1 1 1;" + Texts.SMALL, OrderAssembler.BAD_NAME);
+        Texts.errorAt(Texts.SMALL + "order ^a 1 1 1;", OrderAssembler.BAD_NAME);
+        Texts.errorAt(Texts.SMALL + "order ^whole 1 1 1;", OrderAssembler.BAD_NAME);
     }
 
     private static void tooManyErrors() {
@@ -282,35 +253,35 @@ public final class InputTest {
         for (char name = 'a'; name < 'a' + 12; name++) {
             parts.append("part ").append(name).append(" 1 1;");
         }
-        right(parts.toString(), 0);
-        errorAt(parts + " ^part", OrderAssembler.TOO_MANY);
-        errorAt(parts + "^part a 1 1;", OrderAssembler.TOO_MANY);
+        Texts.right(parts.toString(), 0);
+        Texts.errorAt(parts + " ^part", OrderAssembler.TOO_MANY);
+        Texts.errorAt(parts + "^part a 1 1;", OrderAssembler.TOO_MANY);
         StringBuilder products = new StringBuilder("part a 1 1;");
         for (char name = 'p'; name < 'p' + 8; name++) {
             products.append("product ").append(name).append(" 1 a;");
         }
-        right(products.toString(), 8);
-        errorAt(products + "^product z 1 a;", OrderAssembler.TOO_MANY);
+        Texts.right(products.toString(), 8);
+        Texts.errorAt(products + "^product z 1 a;", OrderAssembler.TOO_MANY);
         String rungs = "rung 0 9 9;".repeat(6);
-        right(rungs, 0);
-        errorAt(rungs + "^rung", OrderAssembler.TOO_MANY);
-        String orders = PARTS_AND_PRODUCT + "order p 1 1 1;".repeat(20);
-        errorAt(orders + "\n^order p 1 1 1;", OrderAssembler.TOO_MANY);
-        errorAt(orders + "^orders", OrderAssembler.SYNTAX);
-        errorAt(parts + "product p 1 a 1 b 1 c 1 d 1 e 1 f ^1 g;", OrderAssembler.TOO_MANY);
-        errorAt(parts + "product p 1 a 1 b 1 c 1 d 1 e 1 f ^99999", OrderAssembler.TOO_MANY);
-        errorAt(parts + "product p 1 a 1 b 1 c 1 d 1 e 1 f ^g;", OrderAssembler.SYNTAX);
+        Texts.right(rungs, 0);
+        Texts.errorAt(rungs + "^rung", OrderAssembler.TOO_MANY);
+        String orders = Texts.SMALL + "order p 1 1 1;".repeat(20);
+        Texts.errorAt(orders + "\n^order p 1 1 1;", OrderAssembler.TOO_MANY);
+        Texts.errorAt(orders + "^orders", OrderAssembler.SYNTAX);
+        Texts.errorAt(parts + "product p 1 a 1 b 1 c 1 d 1 e 1 f ^1 g;", OrderAssembler.TOO_MANY);
+        Texts.errorAt(parts + "product p 1 a 1 b 1 c 1 d 1 e 1 f ^99999", OrderAssembler.TOO_MANY);
+        Texts.errorAt(parts + "product p 1 a 1 b 1 c 1 d 1 e 1 f ^g;", OrderAssembler.SYNTAX);
     }
 
     private static void tooMuchErrors() {
         String nested = "part a 1 1;part b 1 1;product p 20 a;product q 20 p;product r 20 q;";
-        errorAt(nested + "product s 2 ^r;", OrderAssembler.TOO_MUCH);
-        right(nested + "product s 1 r 4 q 19 p 19 a;", 4);
-        errorAt(nested + "product s 1 r 5 ^q;", OrderAssembler.TOO_MUCH);
-        right(nested + "product t 20 b 19 p 19 a;product s 1 r 4 q 1 t;", 5);
-        errorAt(nested + "product t 20 b 20 p 1 a;product s 1 r 4 q 1 ^t;", OrderAssembler.TOO_MUCH);
-        errorAt(nested + "product s 1 r 20 ^r;", OrderAssembler.BAD_NAME);
-        right(nested + "product s 1 r 4 q 20 b;product t 20 b 19 p 19 a;", 5);
+        Texts.errorAt(nested + "product s 2 ^r;", OrderAssembler.TOO_MUCH);
+        Texts.right(nested + "product s 1 r 4 q 19 p 19 a;", 4);
+        Texts.errorAt(nested + "product s 1 r 5 ^q;", OrderAssembler.TOO_MUCH);
+        Texts.right(nested + "product t 20 b 19 p 19 a;product s 1 r 4 q 1 t;", 5);
+        Texts.errorAt(nested + "product t 20 b 20 p 1 a;product s 1 r 4 q 1 ^t;", OrderAssembler.TOO_MUCH);
+        Texts.errorAt(nested + "product s 1 r 20 ^r;", OrderAssembler.BAD_NAME);
+        Texts.right(nested + "product s 1 r 4 q 20 b;product t 20 b 19 p 19 a;", 5);
     }
 
     private static void promises5And6LatestLoad() {
