@@ -5,38 +5,41 @@ public final class ActionBoundaryTest {
     private ActionBoundaryTest() { }
 
     public static void main(String[] args) {
-        addOrderNumber();
-        addOrderRanges();
-        twentyOrders();
-        cancel();
-        cancelDoneOrCancelled();
-        reserve();
-        reserveBelowOne();
-        reserveTooMuch();
-        reserveWhole();
-        reserveWithoutFree();
-        release();
-        releaseBelowOne();
-        releaseTooMuch();
-        releaseWhole();
-        allocate();
-        ship();
-        shipNothing();
-        buy();
-        buyRange();
-        twentyArrivals();
-        adjust();
-        whoLoses();
-        wholeLosesAll();
-        adjustRange();
-        advance();
-        advanceRange();
-        recordedEvenIfNothingChanges();
-        lastTwelve();
-        undoneActionsMakeRoom();
-        undoRestoresEverything();
-        undoOfNone();
-        undoDepth();
+        Check.run(ActionBoundaryTest::addOrderNumber);
+        Check.run(ActionBoundaryTest::addOrderRanges);
+        Check.run(ActionBoundaryTest::twentyOrders);
+        Check.run(ActionBoundaryTest::cancel);
+        Check.run(ActionBoundaryTest::cancelDoneOrCancelled);
+        Check.run(ActionBoundaryTest::reserve);
+        Check.run(ActionBoundaryTest::reserveBelowOne);
+        Check.run(ActionBoundaryTest::reserveTooMuch);
+        Check.run(ActionBoundaryTest::reserveWhole);
+        Check.run(ActionBoundaryTest::reserveWithoutFree);
+        Check.run(ActionBoundaryTest::release);
+        Check.run(ActionBoundaryTest::releaseBelowOne);
+        Check.run(ActionBoundaryTest::releaseTooMuch);
+        Check.run(ActionBoundaryTest::releaseWhole);
+        Check.run(ActionBoundaryTest::allocate);
+        Check.run(ActionBoundaryTest::ship);
+        Check.run(ActionBoundaryTest::shipNothing);
+        Check.run(ActionBoundaryTest::buy);
+        Check.run(ActionBoundaryTest::buyRange);
+        Check.run(ActionBoundaryTest::twentyArrivals);
+        Check.run(ActionBoundaryTest::adjust);
+        Check.run(ActionBoundaryTest::lowestClassLoses);
+        Check.run(ActionBoundaryTest::latestDueDayLoses);
+        Check.run(ActionBoundaryTest::highestNumberLoses);
+        Check.run(ActionBoundaryTest::wholeLosesAll);
+        Check.run(ActionBoundaryTest::adjustRange);
+        Check.run(ActionBoundaryTest::advance);
+        Check.run(ActionBoundaryTest::advanceRange);
+        Check.run(ActionBoundaryTest::recordedEvenIfNothingChanges);
+        Check.run(ActionBoundaryTest::undoableActions);
+        Check.run(ActionBoundaryTest::lastTwelve);
+        Check.run(ActionBoundaryTest::undoneActionsMakeRoom);
+        Check.run(ActionBoundaryTest::undoRestoresEverything);
+        Check.run(ActionBoundaryTest::undoOfNone);
+        Check.run(ActionBoundaryTest::undoDepth);
         Check.end();
     }
 
@@ -376,7 +379,7 @@ public final class ActionBoundaryTest {
         Check.due("nothing is reserved", most.reserved(0), 0);
     }
 
-    private static void whoLoses() {
+    private static void lowestClassLoses() {
         Check.says("of the orders with reserved units whose product needs the part, that one with the lowest class loses a "
             + "reserved unit");
         OrderAssembler x = Check.loaded("part a 99 1;part b 99 1;product p 1 a;product q 1 b;order p 2 1 9;order p 2 0 1;"
@@ -389,6 +392,9 @@ public final class ActionBoundaryTest {
         Check.due("the next class has one", x.reservedUnits(0), 1);
         Check.due("another part's order keeps all", x.reservedUnits(2), 2);
         Check.due("the highest class keeps all", x.reservedUnits(3), 2);
+    }
+
+    private static void latestDueDayLoses() {
         Check.says("of several with this class the one with the latest due day");
         OrderAssembler y = Check.loaded("part a 99 1;product p 1 a;order p 2 5 7;order p 2 5 8;order p 2 5 6;");
         y.allocate();
@@ -397,6 +403,9 @@ public final class ActionBoundaryTest {
         y.adjust(0, 3);
         Check.due("then of the next", y.reservedUnits(0), 1);
         Check.due("the earliest keeps all", y.reservedUnits(2), 2);
+    }
+
+    private static void highestNumberLoses() {
         Check.says("of several the one with the highest number");
         OrderAssembler z = Check.loaded("part a 99 1;product p 1 a;order p 2 5 7;order p 2 5 7;order p 2 5 7;");
         z.allocate();
@@ -489,8 +498,12 @@ public final class ActionBoundaryTest {
         Check.due("undo", x.undo(), 1);
         Check.due("undo", x.undo(), 0);
         Check.due("the state", Check.all(x), before);
+    }
+
+    private static void undoableActions() {
         Check.says("The methods addOrder, cancel, reserve, release, allocate, ship, buy, adjust and advance are undoable "
             + "actions.");
+        OrderAssembler x = Check.loaded(TEN);
         Check.Call[] actions = {() -> x.addOrder(0, 9, 1, 1, false), () -> x.reserve(0, 5), () -> x.release(0, 1),
             () -> x.allocate(), () -> x.ship(0), () -> x.buy(0, 1), () -> x.adjust(0, 50), () -> x.advance(1),
             () -> x.addOrder(0, 1, 1, 1, false), () -> x.cancel(1)};

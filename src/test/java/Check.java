@@ -32,6 +32,17 @@ final class Check {
         sentence = words;
     }
 
+    /** Runs one test; an exception that none was due in is a wrong answer, and the next test still runs. */
+    static void run(Runnable test) {
+        sentence = "";
+        try {
+            test.run();
+        } catch (RuntimeException exception) {
+            checks++;
+            tell("a call, at " + exception.getStackTrace()[0] + ",", exception, "an answer");
+        }
+    }
+
     private static void tell(String what, Object got, Object want) {
         wrong++;
         System.out.println(what + " answered " + got + ", due is " + want);

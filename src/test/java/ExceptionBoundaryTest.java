@@ -10,16 +10,16 @@ public final class ExceptionBoundaryTest {
     private ExceptionBoundaryTest() { }
 
     public static void main(String[] args) {
-        parts();
-        products();
-        others();
-        orders();
-        rungs();
-        lastOnesExist();
-        indexBeforeAll();
-        argumentBeforeState();
-        throwingChangesNothing();
-        loadEmptiesTheBuffer();
+        Check.run(ExceptionBoundaryTest::parts);
+        Check.run(ExceptionBoundaryTest::products);
+        Check.run(ExceptionBoundaryTest::others);
+        Check.run(ExceptionBoundaryTest::orders);
+        Check.run(ExceptionBoundaryTest::rungs);
+        Check.run(ExceptionBoundaryTest::lastOnesExist);
+        Check.run(ExceptionBoundaryTest::indexBeforeAll);
+        Check.run(ExceptionBoundaryTest::argumentBeforeState);
+        Check.run(ExceptionBoundaryTest::throwingChangesNothing);
+        Check.run(ExceptionBoundaryTest::loadEmptiesTheBuffer);
         Check.end();
     }
 
@@ -206,6 +206,9 @@ public final class ExceptionBoundaryTest {
         Check.says("except that load empties the buffer and sets the error");
         OrderAssembler x = Check.loaded(Check.FURNITURE);
         x.allocate();
+        x.advance(12);
+        x.ship(0);
+        x.buy(1, 9);
         x.formatOrder(2);
         String before = Check.all(x) + Check.formatted(x);
         Check.enter(x, "part a 1 1;rung 0 9 101;");

@@ -5,21 +5,21 @@ public final class LogBoundaryTest {
     private LogBoundaryTest() { }
 
     public static void main(String[] args) {
-        totals();
-        lateUnits();
-        lateDays();
-        bought();
-        noSuchTotal();
-        latestSixteen();
-        noSuchShipment();
-        undoneShipments();
-        formatOrder();
-        formatWhole();
-        formatCancelled();
-        formatNeeds();
-        decimalNumbers();
-        replacedText();
-        formattedByte();
+        Check.run(LogBoundaryTest::totals);
+        Check.run(LogBoundaryTest::lateUnits);
+        Check.run(LogBoundaryTest::lateDays);
+        Check.run(LogBoundaryTest::bought);
+        Check.run(LogBoundaryTest::noSuchTotal);
+        Check.run(LogBoundaryTest::latestSixteen);
+        Check.run(LogBoundaryTest::noSuchShipment);
+        Check.run(LogBoundaryTest::undoneShipments);
+        Check.run(LogBoundaryTest::formatOrder);
+        Check.run(LogBoundaryTest::formatWhole);
+        Check.run(LogBoundaryTest::formatCancelled);
+        Check.run(LogBoundaryTest::formatNeeds);
+        Check.run(LogBoundaryTest::decimalNumbers);
+        Check.run(LogBoundaryTest::replacedText);
+        Check.run(LogBoundaryTest::formattedByte);
         Check.end();
     }
 
@@ -42,14 +42,20 @@ public final class LogBoundaryTest {
         Check.due("total(0) after undo", x.total(0), 39);
         Check.due("total(1) after undo", x.total(1), 78);
         Check.says("Returns this total since the text was loaded");
-        Check.enter(x, MANY);
-        x.load();
-        for (int what = 0; what < 5; what++) {
-            Check.due("total(" + what + ") after load", x.total(what), 0);
+        for (int time = 0; time < 3; time++) {
+            Check.enter(x, MANY);
+            x.load();
+            for (int what = 0; what < 5; what++) {
+                Check.due("total(" + what + ") after load", x.total(what), 0);
+            }
+            x.advance(10);
+            x.buy(0, 999);
+            ship(x, 0, 99);
+            int[] due = {1, 99, 99, 99 * 7, 999};
+            for (int what = 0; what < 5; what++) {
+                Check.due("total(" + what + ") of one shipment and one purchase", x.total(what), due[what]);
+            }
         }
-        ship(x, 0, 99);
-        Check.due("total(0) of the greatest shipment", x.total(0), 1);
-        Check.due("total(1) of the greatest shipment", x.total(1), 99);
     }
 
     private static void lateUnits() {

@@ -3,27 +3,27 @@ public final class StockBoundaryTest {
     private StockBoundaryTest() { }
 
     public static void main(String[] args) {
-        numberedFromZero();
-        mostLines();
-        needAlongSeveralWays();
-        levels();
-        count();
-        lines();
-        noSuchLine();
-        needs();
-        pieces();
-        usedBy();
-        commonParts();
-        day();
-        reservedAtFirst();
-        freeNeverBelowZero();
-        arriving();
-        nextArrival();
-        buildable();
-        bottleneck();
-        bottleneckOfSeveral();
-        together();
-        togetherWithItself();
+        Check.run(StockBoundaryTest::numberedFromZero);
+        Check.run(StockBoundaryTest::mostLines);
+        Check.run(StockBoundaryTest::needAlongSeveralWays);
+        Check.run(StockBoundaryTest::levels);
+        Check.run(StockBoundaryTest::count);
+        Check.run(StockBoundaryTest::lines);
+        Check.run(StockBoundaryTest::noSuchLine);
+        Check.run(StockBoundaryTest::needs);
+        Check.run(StockBoundaryTest::pieces);
+        Check.run(StockBoundaryTest::usedBy);
+        Check.run(StockBoundaryTest::commonParts);
+        Check.run(StockBoundaryTest::day);
+        Check.run(StockBoundaryTest::reservedAtFirst);
+        Check.run(StockBoundaryTest::freeNeverBelowZero);
+        Check.run(StockBoundaryTest::arriving);
+        Check.run(StockBoundaryTest::nextArrival);
+        Check.run(StockBoundaryTest::buildable);
+        Check.run(StockBoundaryTest::bottleneck);
+        Check.run(StockBoundaryTest::bottleneckOfSeveral);
+        Check.run(StockBoundaryTest::together);
+        Check.run(StockBoundaryTest::togetherWithItself);
         Check.end();
     }
 

@@ -5,41 +5,43 @@ public final class TextBoundaryTest {
     private TextBoundaryTest() { }
 
     public static void main(String[] args) {
-        newObject();
-        bufferOf900Bytes();
-        bytesOfEachWord();
-        appendToAFullBuffer();
-        truncateRange();
-        textOf900Bytes();
-        noLinesOrMany();
-        repeatedAndOptional();
-        words();
-        names();
-        keywordsAsNames();
-        numbers();
-        whiteSpace();
-        partNumbers();
-        rungNumbers();
-        orderNumbers();
-        lineQuantities();
-        earlierProducts();
-        wrongWordsAtTheirFirstByte();
-        endsTooEarly();
-        tooManyLines();
-        tooManyBillLines();
-        usedNames();
-        unknownItems();
-        repeatedItems();
-        namesOfOrders();
-        tooManyDigits();
-        tooMuch();
-        everythingElse();
-        loadStartsAnew();
-        loadAgainAndAgain();
-        bufferAfterLoad();
-        formattedTextAfterLoad();
-        wrongTextLeavesEverything();
-        latestError();
+        Check.run(TextBoundaryTest::newObject);
+        Check.run(TextBoundaryTest::bufferOf900Bytes);
+        Check.run(TextBoundaryTest::bytesOfEachWord);
+        Check.run(TextBoundaryTest::appendToAFullBuffer);
+        Check.run(TextBoundaryTest::truncateRange);
+        Check.run(TextBoundaryTest::textOf900Bytes);
+        Check.run(TextBoundaryTest::noLinesOrMany);
+        Check.run(TextBoundaryTest::repeatedAndOptional);
+        Check.run(TextBoundaryTest::words);
+        Check.run(TextBoundaryTest::names);
+        Check.run(TextBoundaryTest::keywordsAsNames);
+        Check.run(TextBoundaryTest::numbers);
+        Check.run(TextBoundaryTest::whiteSpace);
+        Check.run(TextBoundaryTest::partNumbers);
+        Check.run(TextBoundaryTest::rungClasses);
+        Check.run(TextBoundaryTest::rungShares);
+        Check.run(TextBoundaryTest::orderNumbers);
+        Check.run(TextBoundaryTest::lineQuantities);
+        Check.run(TextBoundaryTest::earlierProducts);
+        Check.run(TextBoundaryTest::wrongWordsAtTheirFirstByte);
+        Check.run(TextBoundaryTest::endsTooEarly);
+        Check.run(TextBoundaryTest::tooManyLines);
+        Check.run(TextBoundaryTest::tooManyBillLines);
+        Check.run(TextBoundaryTest::usedNames);
+        Check.run(TextBoundaryTest::unknownItems);
+        Check.run(TextBoundaryTest::repeatedItems);
+        Check.run(TextBoundaryTest::namesOfOrders);
+        Check.run(TextBoundaryTest::tooManyDigits);
+        Check.run(TextBoundaryTest::tooMuch);
+        Check.run(TextBoundaryTest::everythingElse);
+        Check.run(TextBoundaryTest::loadStartsAnew);
+        Check.run(TextBoundaryTest::loadAgainAndAgain);
+        Check.run(TextBoundaryTest::bufferAfterLoad);
+        Check.run(TextBoundaryTest::formattedTextAfterLoad);
+        Check.run(TextBoundaryTest::wrongTextLeavesEverything);
+        Check.run(TextBoundaryTest::latestErrorOffset);
+        Check.run(TextBoundaryTest::latestErrorKind);
         Check.end();
     }
 
@@ -282,7 +284,7 @@ public final class TextBoundaryTest {
         Texts.badNumber("part a 1 ^9999;");
     }
 
-    private static void rungNumbers() {
+    private static void rungClasses() {
         Check.says("\"rung\" adds a rung with its lowest class (0 to 9), its highest class (its lowest class to 9), "
             + "and its share.");
         Texts.right("rung 0 0 1;rung 0 9 100;rung 9 9 100;rung 5 5 1;", 0);
@@ -291,10 +293,6 @@ public final class TextBoundaryTest {
         Texts.badNumber("rung 9 ^8 1;");
         Texts.badNumber("rung 1 ^0 1;");
         Texts.badNumber("rung 9 ^10 1;");
-        Check.says("a share (1 to 100 percent)");
-        Texts.badNumber("rung 0 0 ^0;");
-        Texts.badNumber("rung 0 0 ^101;");
-        Texts.badNumber("rung 0 0 ^9999;");
         for (int low = 0; low <= 9; low++) {
             for (int high = 0; high <= 9; high++) {
                 if (high >= low) {
@@ -304,6 +302,14 @@ public final class TextBoundaryTest {
                 }
             }
         }
+    }
+
+    private static void rungShares() {
+        Check.says("a share (1 to 100 percent)");
+        Texts.badNumber("rung 0 0 ^0;");
+        Texts.badNumber("rung 0 0 ^101;");
+        Texts.badNumber("rung 0 0 ^9999;");
+        Texts.right("rung 0 0 1;rung 0 0 99;rung 0 0 100;", 0);
     }
 
     private static void orderNumbers() {
@@ -638,11 +644,9 @@ public final class TextBoundaryTest {
 
     private static void wrongTextLeavesEverything() {
         Check.says("Throws IllegalArgumentException if the text does not match; everything else stays as it is.");
-        String[] wrong = {"x", "part", Texts.SMALL + "part a", Texts.full() + "order", "rung 0 0 1;rung 0 0 0;",
+        String[] wrong = {"?", "x", "part", Texts.SMALL + "part a", Texts.full() + "order", "rung 0 0 1;rung 0 0 0;",
             Texts.SMALL + "product q 1 a 1 ", Texts.SMALL + "rung 0 0 1;order p 1 1 1;order p 1 1 1 whol;"};
         OrderAssembler x = used();
-        Check.enter(x, "?");
-        Check.badArgument("the first wrong text", x::load);
         String before = Check.everything(x).replaceFirst("#[^,]*,[^,]*,[^,]*,", "#");
         for (String text : wrong) {
             Check.enter(x, text);
@@ -660,44 +664,70 @@ public final class TextBoundaryTest {
         Texts.right(Texts.full(), 8);
     }
 
-    private static void error(OrderAssembler x, String when, int offset, int kind) {
-        Check.says("Returns the error offset of the latest call of load; NONE if that call succeeded or if there was "
-            + "none.");
-        Check.due("errorOffset() " + when, x.errorOffset(), offset);
-        Check.says("Returns the kind of error of the latest call of load; 0 if that call succeeded or if there was "
-            + "none.");
-        Check.due("errorKind() " + when, x.errorKind(), kind);
+    /** Loads a text that is wrong. */
+    private static void loadWrong(OrderAssembler x, String text) {
+        Check.enter(x, text);
+        Check.badArgument("load of " + text, x::load);
     }
 
-    private static void latestError() {
-        OrderAssembler x = new OrderAssembler();
-        error(x, "before any load", OrderAssembler.NONE, 0);
-        Check.enter(x, "x");
-        error(x, "before load of a wrong text", OrderAssembler.NONE, 0);
-        Check.badArgument("a wrong text", x::load);
-        error(x, "at offset 0", 0, OrderAssembler.SYNTAX);
+    /** Calls that are no load, so that they leave the error alone. */
+    private static void otherCalls(OrderAssembler x) {
         x.append(SPACES, SPACES, SPACES, SPACES, SPACES);
         x.truncate(5);
         x.allocate();
         x.undo();
         Check.outside("another exception", () -> x.stock(0));
-        error(x, "until the next load", 0, OrderAssembler.SYNTAX);
+    }
+
+    private static void latestErrorOffset() {
+        Check.says("Returns the error offset of the latest call of load; NONE if that call succeeded or if there was "
+            + "none.");
+        OrderAssembler x = new OrderAssembler();
+        Check.none("errorOffset() before any load", x.errorOffset());
+        Check.enter(x, "x");
+        Check.none("errorOffset() before load of a wrong text", x.errorOffset());
+        loadWrong(x, "x");
+        Check.due("errorOffset() at the first byte", x.errorOffset(), 0);
+        otherCalls(x);
+        Check.due("errorOffset() until the next load", x.errorOffset(), 0);
         Check.due("a right text", x.load(), 0);
-        error(x, "after a right text", OrderAssembler.NONE, 0);
-        Check.enter(x, "part a 10000 1;");
-        Check.badArgument("a wrong number", x::load);
-        error(x, "after a wrong number", 7, OrderAssembler.BAD_NUMBER);
-        Check.enter(x, "order a 1 1 1;");
-        Check.badArgument("a wrong name", x::load);
-        error(x, "after a wrong name", 6, OrderAssembler.BAD_NAME);
-        Check.enter(x, Texts.rungs(6) + "rung");
-        Check.badArgument("too many rungs", x::load);
-        error(x, "after too many rungs", 78, OrderAssembler.TOO_MANY);
-        Check.enter(x, "part a 1 1;product p 20 a;product q 20 p;product r 20 q;product s 2 r;");
-        Check.badArgument("too much of a part", x::load);
-        error(x, "after too much of a part", 68, OrderAssembler.TOO_MUCH);
+        Check.none("errorOffset() after a right text", x.errorOffset());
+        loadWrong(x, "part a 10000 1;");
+        Check.due("errorOffset() of a wrong number", x.errorOffset(), 7);
+        loadWrong(x, "order a 1 1 1;");
+        Check.due("errorOffset() of a wrong name", x.errorOffset(), 6);
+        loadWrong(x, " ".repeat(899) + "x");
+        Check.due("errorOffset() at the last byte", x.errorOffset(), 899);
+        loadWrong(x, " ".repeat(896) + "part");
+        Check.due("errorOffset() behind the last byte", x.errorOffset(), 900);
         Check.enter(x, Texts.SMALL);
         Check.due("another right text", x.load(), 1);
-        error(x, "after another right text", OrderAssembler.NONE, 0);
+        Check.none("errorOffset() after another right text", x.errorOffset());
+    }
+
+    private static void latestErrorKind() {
+        Check.says("Returns the kind of error of the latest call of load; 0 if that call succeeded or if there was "
+            + "none.");
+        OrderAssembler x = new OrderAssembler();
+        Check.due("errorKind() before any load", x.errorKind(), 0);
+        Check.enter(x, "x");
+        Check.due("errorKind() before load of a wrong text", x.errorKind(), 0);
+        loadWrong(x, "x");
+        Check.due("errorKind() of a wrong word", x.errorKind(), 1);
+        otherCalls(x);
+        Check.due("errorKind() until the next load", x.errorKind(), 1);
+        Check.due("a right text", x.load(), 0);
+        Check.due("errorKind() after a right text", x.errorKind(), 0);
+        loadWrong(x, "part a 10000 1;");
+        Check.due("errorKind() of a wrong number", x.errorKind(), 2);
+        loadWrong(x, "order a 1 1 1;");
+        Check.due("errorKind() of a wrong name", x.errorKind(), 3);
+        loadWrong(x, Texts.rungs(6) + "rung");
+        Check.due("errorKind() of too many rungs", x.errorKind(), 4);
+        loadWrong(x, "part a 1 1;product p 20 a;product q 20 p;product r 20 q;product s 2 r;");
+        Check.due("errorKind() of too much of a part", x.errorKind(), 5);
+        Check.enter(x, Texts.SMALL);
+        Check.due("another right text", x.load(), 1);
+        Check.due("errorKind() after another right text", x.errorKind(), 0);
     }
 }
