@@ -518,13 +518,20 @@ public final class ActionBoundaryTest {
             Check.due("the state before action " + k, Check.all(x), states[k]);
         }
         Check.says("are undoable actions (and no other calls)");
-        Check.enter(x, TEN);
+        Check.enter(x, TEN + "product q 2 a;order p 1 1 1;");
         x.load();
         x.append(0, 0, 0, 0, 0);
         x.truncate(0);
         x.formatNeeds(0);
-        x.undo();
+        x.formatOrder(0);
+        String asked = Check.everything(x);
+        x.promise(0, 1);
+        x.buildableTogether(0, 1);
+        x.buildableAfter(0, 1, 1);
         Check.due("undoDepth() after other calls", x.undoDepth(), 0);
+        Check.none("undo() after other calls", x.undo());
+        Check.due("undoDepth() after undo()", x.undoDepth(), 0);
+        Check.due("everything after other calls", Check.everything(x), asked);
     }
 
     private static void lastTwelve() {
