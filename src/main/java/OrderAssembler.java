@@ -995,10 +995,13 @@ public final class OrderAssembler {
             System.arraycopy(from.quantities, 0, quantities, 0, MAX_ORDERS);
             System.arraycopy(from.classes, 0, classes, 0, MAX_ORDERS);
             System.arraycopy(from.dues, 0, dues, 0, MAX_ORDERS);
-            System.arraycopy(from.wholes, 0, wholes, 0, MAX_ORDERS);
-            System.arraycopy(from.cancellations, 0, cancellations, 0, MAX_ORDERS);
             System.arraycopy(from.reservations, 0, reservations, 0, MAX_ORDERS);
             System.arraycopy(from.shipped, 0, shipped, 0, MAX_ORDERS);
+            // The library's copying is for arrays of numbers alone.
+            for (int order = 0; order < MAX_ORDERS; order++) {
+                wholes[order] = from.wholes[order];
+                cancellations[order] = from.cancellations[order];
+            }
         }
 
         int enter(int product, int units, int level, int due, boolean whole) {

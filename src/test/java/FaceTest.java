@@ -154,7 +154,25 @@ public final class FaceTest {
         while (imports.find()) {
             Check.due("import", imports.group(1), "java.util.Arrays");
         }
+        copiedRows(code);
         lengths(text);
+    }
+
+    /** System.arraycopy and Arrays are for arrays of numbers alone (rule 4). */
+    private static void copiedRows(String code) {
+        Set<String> others = new TreeSet<>();
+        Matcher rows = Pattern.compile("\\b(boolean|[A-Z]\\w*)(\\[\\])+ (\\w+)").matcher(code);
+        while (rows.find()) {
+            others.add(rows.group(3));
+        }
+        Check.due("there are rows of booleans", others.contains("wholes") ? 1 : 0, 1);
+        Matcher copies = Pattern.compile("\\b(System\\.arraycopy|Arrays\\.\\w+)\\(([^;]*)\\);").matcher(code);
+        while (copies.find()) {
+            for (String word : copies.group(2).split("\\W+")) {
+                Check.due("copied or filled by the library, but no row of numbers: " + word,
+                    others.contains(word) ? 1 : 0, 0);
+            }
+        }
     }
 
     private static void lengths(String text) {
